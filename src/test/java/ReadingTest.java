@@ -280,6 +280,9 @@ public final class ReadingTest {
         checks.dueValue("[[]" + times(",[]", 498) + "].", "error 2");
         checks.dueValue("[_" + times(",_", 499) + "].", "broken 0");
         checks.dueValue(" [" + times("1,", 2040) + "1].", "broken 1");
+        ValueReckoner x = new ValueReckoner();
+        checks.due("a long text", Checks.value(x, "0" + times("+1", 400) + "."), "400");
+        checks.due("a second long text", Checks.value(x, "0" + times("+1", 400) + "."), "400");
         checks.dueLet(new ValueReckoner(), "X is 0" + times("+1", 498) + ".", "1");
         checks.dueLet(new ValueReckoner(), " X is 0" + times("+1", 499) + ".", "broken 1");
         checks.dueHolds(new ValueReckoner(), " 1 < 0" + times("+1", 499) + ".", "broken 1");
