@@ -6,16 +6,18 @@ final class Checks {
     private static final int MOST_BYTES = 4096;
     private int wrong = 0;
 
-    /** Puts the text on an empty tape, whatever its length up to 4096. */
+    /** Puts the text on an empty tape, whatever its length up to 4096, with no more calls than it needs. */
     static void load(ValueReckoner x, String text) {
         byte[] bytes = text.getBytes(StandardCharsets.ISO_8859_1);
+        int length = 0;
         for (int from = 0; from < bytes.length; from += CHUNK) {
-            int start = Math.min(from, MOST_BYTES - CHUNK);
-            x.end(start);
-            x.feed(word(bytes, start), word(bytes, start + 4), word(bytes, start + 8), word(bytes, start + 12),
+            int start = from + CHUNK > MOST_BYTES ? x.end(MOST_BYTES - CHUNK) : from;
+            length = x.feed(word(bytes, start), word(bytes, start + 4), word(bytes, start + 8), word(bytes, start + 12),
                 word(bytes, start + 16));
         }
-        x.end(bytes.length);
+        if (length > bytes.length) {
+            x.end(bytes.length);
+        }
     }
 
     private static int word(byte[] bytes, int from) {
@@ -32,10 +34,8 @@ final class Checks {
         String answer;
         try {
             answer = Long.toString(x.value());
-        } catch (UnsupportedOperationException e) {
-            answer = "broken";
-        } catch (ArithmeticException e) {
-            answer = "error";
+        } catch (RuntimeException e) {
+            answer = thrown(e);
         }
         return told(x, answer);
     }
@@ -45,12 +45,8 @@ final class Checks {
         String answer;
         try {
             answer = Integer.toString(x.let());
-        } catch (UnsupportedOperationException e) {
-            answer = "broken";
-        } catch (ArithmeticException e) {
-            answer = "error";
-        } catch (IndexOutOfBoundsException e) {
-            answer = "full";
+        } catch (RuntimeException e) {
+            answer = thrown(e);
         }
         return told(x, answer);
     }
@@ -60,12 +56,17 @@ final class Checks {
         String answer;
         try {
             answer = Boolean.toString(x.holds());
-        } catch (UnsupportedOperationException e) {
-            answer = "broken";
-        } catch (ArithmeticException e) {
-            answer = "error";
+        } catch (RuntimeException e) {
+            answer = thrown(e);
         }
         return told(x, answer);
+    }
+
+    /** A subclass of what the document names is not what it names. */
+    private static String thrown(RuntimeException e) {
+        Class<?> kind = e.getClass();
+        return kind == UnsupportedOperationException.class ? "broken" : kind == ArithmeticException.class ? "error"
+            : kind == IndexOutOfBoundsException.class ? "full" : e.toString();
     }
 
     /** Adds what count tells, and shows it where it does not fit the answer. */
@@ -95,6 +96,10 @@ final class Checks {
         due("value of " + shown(text), value(new ValueReckoner(), text), want);
     }
 
+    void dueValue(ValueReckoner x, String text, String want) {
+        due("value of " + shown(text), value(x, text), want);
+    }
+
     void dueLet(ValueReckoner x, String text, String want) {
         due("let of " + shown(text), let(x, text), want);
     }
@@ -107,21 +112,27 @@ final class Checks {
         return text.length() <= 200 ? "<" + text + ">" : "<" + text.substring(0, 200) + "...> of " + text.length();
     }
 
+    /** What the three counts tell: bytes of the tape, PLACE, ERROR. */
+    void dueCounts(String behind, ValueReckoner x, int bytes, int place, int error) {
+        due("count(0) behind " + behind, x.count(0), bytes);
+        due("count(1) behind " + behind, x.count(1), place);
+        due("count(2) behind " + behind, x.count(2), error);
+    }
+
     static boolean throwsIllegalArgument(Runnable call) {
-        try {
-            call.run();
-            return false;
-        } catch (IllegalArgumentException e) {
-            return true;
-        }
+        return IllegalArgumentException.class == classThrown(call);
     }
 
     static boolean throwsIndexOutOfBounds(Runnable call) {
+        return IndexOutOfBoundsException.class == classThrown(call);
+    }
+
+    private static Class<?> classThrown(Runnable call) {
         try {
             call.run();
-            return false;
-        } catch (IndexOutOfBoundsException e) {
-            return true;
+            return null;
+        } catch (RuntimeException e) {
+            return e.getClass();
         }
     }
 

@@ -42,7 +42,7 @@ public final class LetTest {
         checks.due("all", Checks.value(x, "Ab+10*A+100*Abc+1000*AB+10000*_ab+100000*__+1000000*_1."), "7654321");
         checks.due("Ac", Checks.value(x, "Ac."), "error 1");
         checks.due("_", Checks.value(x, "_."), "error 1");
-        String longName = "X" + "y".repeat(3000);
+        String longName = "X" + "y".repeat(1000);
         checks.dueLet(x, longName + "1 is 8.", "8");
         checks.dueLet(x, longName + "2 is 9.", "9");
         checks.due("a long name", Checks.value(x, longName + "1."), "8");
